@@ -22,7 +22,7 @@ public final class TermLoom {
     private static final int MOST_SYMBOLS = 4000;
     private static final int MOST_HEIGHT = 120;
     private static final int MOST_SYMBOLS_TOGETHER = 30000;
-    // Each application has one leaf more below it than applications, so half of a term's symbols.
+    // A term has one leaf more than applications, so leaves are half of its symbols at most.
     private static final int MOST_LEAVES = 2000;
 
     // A call makes one handle at most, and what an object answers after so many calls is free.
@@ -36,7 +36,7 @@ public final class TermLoom {
 
     private final TypeTable types;
     private final TermStore terms;
-    private final Matching matching;
+    private final Bindings bindings;
     private final int[] takes;
     private final int[] declared;
     private int constructors;
@@ -45,7 +45,7 @@ public final class TermLoom {
     public TermLoom() {
         types = new TypeTable();
         terms = new TermStore();
-        matching = new Matching(types, terms);
+        bindings = new Bindings();
         takes = new int[MOST_CONSTRUCTORS];
         declared = new int[MOST_CONSTANTS];
         takes[FUNCTIONS] = MOST_TAKEN;
@@ -231,8 +231,7 @@ public final class TermLoom {
     public boolean same(int t, int u) throws IndexOutOfBoundsException {
         requireTerm(t);
         requireTerm(u);
-        return terms.length(t) == terms.length(u)
-                && terms.alike(terms.start(t), terms.start(u), terms.length(t));
+        return terms.alike(terms.start(t), terms.end(t), terms.start(u), terms.end(u));
     }
 
     public boolean sameType(int a, int b) throws IndexOutOfBoundsException {
@@ -249,15 +248,21 @@ public final class TermLoom {
     public int match(int p, int t) throws IndexOutOfBoundsException {
         requireTerm(p);
         requireTerm(t);
-        return matching.attempt(p, t);
+        bindings.forget();
+        types.beginImages();
+        if (!wholeFits(p, t)) {
+            bindings.forget();
+            return NONE;
+        }
+        return bindings.count();
     }
 
     public int matched(int i) throws IndexOutOfBoundsException, IllegalStateException {
-        if (i < 0 || i >= matching.found()) {
+        if (i < 0 || i >= bindings.count()) {
             throw new IndexOutOfBoundsException("the latest match made no such variable something");
         }
         terms.begin();
-        terms.copy(matching.from(i), matching.to(i));
+        terms.copy(bindings.from(i), bindings.end(i));
         return settled(terms.keep(), types.count());
     }
 
@@ -265,6 +270,57 @@ public final class TermLoom {
         terms.begin();
         terms.add(code, type);
         return settled(terms.keep(), types.count());
+    }
+
+    private boolean wholeFits(int p, int t) {
+        int there = terms.start(t);
+        for (int at = terms.start(p); at < terms.end(p); at++) {
+            there = behindFitting(at, there);
+            if (there == NONE) {
+                return false;
+            }
+        }
+        return true;
+    }
+
+    /** Behind what the pattern's symbol fits in the term; NONE if it does not fit. */
+    private int behindFitting(int at, int there) {
+        int code = terms.code(at);
+        if (isOf(FREE, code)) {
+            return behindBinding(at, there);
+        }
+        if (code != terms.code(there)) {
+            return NONE;
+        }
+        int pattern = terms.symbolType(at);
+        int type = terms.symbolType(there);
+        boolean fits = true;
+        if (code == ABSTRACTION) {
+            fits = types.fits(types.first(pattern), types.first(type), MOST_TYPE_HEIGHT);
+        } else if (isOf(CONSTANT, code)) {
+            fits = types.fits(pattern, type, MOST_TYPE_HEIGHT);
+        }
+        return fits ? there + 1 : NONE;
+    }
+
+    /** The same for a free variable, which becomes the term's whole part there. */
+    private int behindBinding(int at, int there) {
+        int end = terms.endOfClosed(there);
+        if (end == NONE) {
+            return NONE;
+        }
+        int code = terms.code(at);
+        int pattern = terms.symbolType(at);
+        int known = bindings.find(code, pattern);
+        if (known != NONE) {
+            boolean again = terms.alike(bindings.from(known), bindings.end(known), there, end);
+            return again ? end : NONE;
+        }
+        if (!types.fits(pattern, terms.symbolType(there), MOST_TYPE_HEIGHT)) {
+            return NONE;
+        }
+        bindings.add(code, pattern, there, end);
+        return end;
     }
 
     /** A refused call leaves no type behind: only types that are in use count as being there. */
@@ -734,10 +790,13 @@ public final class TermLoom {
             return false;
         }
 
-        boolean alike(int from, int other, int length) {
-            for (int i = 0; i < length; i++) {
-                if (code(from + i) != code(other + i)
-                        || symbolType(from + i) != symbolType(other + i)) {
+        boolean alike(int from, int end, int otherFrom, int otherEnd) {
+            if (end - from != otherEnd - otherFrom) {
+                return false;
+            }
+            for (int i = 0; i < end - from; i++) {
+                if (code(from + i) != code(otherFrom + i)
+                        || symbolType(from + i) != symbolType(otherFrom + i)) {
                     return false;
                 }
             }
@@ -761,108 +820,42 @@ public final class TermLoom {
         }
     }
 
-    /** What the latest match made of the pattern's free variables: places in the term store. */
-    private static final class Matching {
-        private final TypeTable types;
-        private final TermStore terms;
+    /** What the latest match made of the pattern's free variables, each from a place to a place. */
+    private static final class Bindings {
         private final int[] codes = new int[MOST_LEAVES];
         private final int[] variableTypes = new int[MOST_LEAVES];
         private final int[] froms = new int[MOST_LEAVES];
         private final int[] ends = new int[MOST_LEAVES];
         private final int[] older = new int[MOST_LEAVES];
         private final int[] newest = new int[NUMBERS];
-        private int found;
+        private int count;
 
-        Matching(TypeTable types, TermStore terms) {
-            this.types = types;
-            this.terms = terms;
+        Bindings() {
             Arrays.fill(newest, NONE);
         }
 
-        int found() {
-            return found;
+        int count() {
+            return count;
         }
 
         int from(int i) {
             return read(froms, i);
         }
 
-        int to(int i) {
+        int end(int i) {
             return read(ends, i);
         }
 
-        /** How many free variables became something; NONE if the pattern does not fit. */
-        int attempt(int p, int t) {
-            forget();
-            types.beginImages();
-            int there = terms.start(t);
-            for (int at = terms.start(p); at < terms.end(p); at++) {
-                there = fitted(at, there);
-                if (there == NONE) {
-                    forget();
-                    return NONE;
-                }
-            }
-            return found;
-        }
-
-        private void forget() {
-            for (int i = 0; i < found && i < MOST_LEAVES; i++) {
+        void forget() {
+            for (int i = 0; i < count && i < MOST_LEAVES; i++) {
                 setNewest(codes[i], NONE);
             }
-            found = 0;
+            count = 0;
         }
 
-        private void setNewest(int code, int i) {
-            int number = numberOf(code);
-            if (number >= 0 && number < NUMBERS) {
-                newest[number] = i;
-            }
-        }
-
-        /** Behind what the pattern's symbol fits in the term; NONE if it does not fit. */
-        private int fitted(int at, int there) {
-            int code = terms.code(at);
-            if (isOf(FREE, code)) {
-                return placed(at, there);
-            }
-            if (code != terms.code(there)) {
-                return NONE;
-            }
-            int pattern = terms.symbolType(at);
-            int type = terms.symbolType(there);
-            boolean fits = true;
-            if (code == ABSTRACTION) {
-                fits = typeFits(types.first(pattern), types.first(type));
-            } else if (isOf(CONSTANT, code)) {
-                fits = typeFits(pattern, type);
-            }
-            return fits ? there + 1 : NONE;
-        }
-
-        private boolean typeFits(int pattern, int type) {
-            return types.fits(pattern, type, MOST_TYPE_HEIGHT);
-        }
-
-        private int placed(int at, int there) {
-            int end = terms.endOfClosed(there);
-            if (end == NONE) {
-                return NONE;
-            }
-            int known = find(terms.code(at), terms.symbolType(at));
-            boolean fits = known == NONE
-                    ? typeFits(terms.symbolType(at), terms.symbolType(there))
-                    : end - there == to(known) - from(known)
-                            && terms.alike(from(known), there, end - there);
-            if (fits && known == NONE) {
-                remember(at, there, end);
-            }
-            return fits ? end : NONE;
-        }
-
-        private int find(int code, int type) {
+        int find(int code, int type) {
             int i = read(newest, numberOf(code));
-            for (int left = found; left > 0 && i != NONE; left--) {
+            for (int left = count; left > 0 && i != NONE; left--) {
                 if (read(variableTypes, i) == type) {
                     return i;
                 }
@@ -871,18 +864,24 @@ public final class TermLoom {
             return NONE;
         }
 
-        private void remember(int at, int there, int end) {
-            if (found < 0 || found >= MOST_LEAVES) {
+        void add(int code, int type, int from, int end) {
+            if (count < 0 || count >= MOST_LEAVES) {
                 return;
             }
-            int code = terms.code(at);
-            codes[found] = code;
-            variableTypes[found] = terms.symbolType(at);
-            froms[found] = there;
-            ends[found] = end;
-            older[found] = read(newest, numberOf(code));
-            setNewest(code, found);
-            found++;
+            codes[count] = code;
+            variableTypes[count] = type;
+            froms[count] = from;
+            ends[count] = end;
+            older[count] = read(newest, numberOf(code));
+            setNewest(code, count);
+            count++;
+        }
+
+        private void setNewest(int code, int i) {
+            int number = numberOf(code);
+            if (number >= 0 && number < NUMBERS) {
+                newest[number] = i;
+            }
         }
     }
 }

@@ -23,7 +23,9 @@ public final class LimitsTest {
     new LimitsTest("terms together").termsTogether();
     new LimitsTest("different types").differentTypes();
     new LimitsTest("different types, to the last one").lastDifferentType();
+    new LimitsTest("forgotten types").forgottenTypes();
     new LimitsTest("many variables matched").manyVariables();
+    new LimitsTest("most variables matched").mostVariables();
     Checks.end("LimitsTest");
   }
 
@@ -440,10 +442,34 @@ public final class LimitsTest {
     int other = twin.free(7, twin.plain.types.size() - 1);
     twin.abstraction(other, high);
     latest("too high, with a new type", Checks.STATE);
+    twin.type(0, 0, 0);
+    works("it left no type, so another one is the last one");
     twin.abstraction(other, y);
-    works("that type is the last one");
-    twin.abstraction(other, f);
-    latest("there is no room for another one", Checks.STATE);
+    latest("there is no room for it now", Checks.STATE);
+  }
+
+  /** Types that a refused call made are gone, and can be made again. */
+  private void forgottenTypes() {
+    int unary = twin.constructor(1);
+    int high = chain(unary, 23);
+    int x = twin.free(1, alpha);
+    int b = twin.free(2, twin.type(2, alpha, endless));
+    int t = twin.apply(b, x);
+    twin.retype(t, 0, high);
+    latest("too high", Checks.STATE);
+    for (int n = 1; n < 40; n++) {
+      twin.typeVariable(n);
+    }
+    int again = twin.type(2, high, high);
+    works("height 24");
+    twin.typeSymbol(again, 0);
+    latest("functions", "2");
+    twin.typeSymbol(again, 24);
+    latest("to that type", Integer.toString(unary));
+    twin.abstraction(twin.free(3, high), twin.free(4, high));
+    twin.typeOf(twin.plain.terms.size() - 1);
+    twin.sameType(again, twin.plain.types.size() - 1);
+    latest("it is one type", "1");
   }
 
   private void manyVariables() {
@@ -470,5 +496,33 @@ public final class LimitsTest {
     twin.typeOf(twin.plain.terms.size() - 1);
     twin.typeSymbol(twin.plain.types.size() - 1, 0);
     latest("the last one, of functions", "2");
+  }
+
+  /** A term of which each leaf is another free variable: copies of one, each with other types. */
+  private void mostVariables() {
+    int unary = twin.constructor(1);
+    int t = twin.free(0, alpha);
+    int twoPlaces = twin.type(2, alpha, endless);
+    for (int n = 1; n <= 60; n++) {
+      int part = twin.apply(twin.free(2 * n - 1, twoPlaces), twin.free(2 * n, alpha));
+      t = twin.apply(part, t);
+    }
+    for (int half = 1; half <= 8; half *= 2) {
+      int other = chain(unary, half + 1);
+      int join = twin.free(900 + half, twin.type(2, alpha, twin.type(2, other, alpha)));
+      int copy = twin.retype(t, 0, other);
+      t = twin.apply(twin.apply(join, t), copy);
+    }
+    works("the term");
+    twin.match(t, t);
+    latest("each leaf is a variable", "1951");
+    twin.matched(1950);
+    works("the last one");
+    twin.matched(1951);
+    latest("none behind it", Checks.INDEX);
+    twin.match(t, twin.retype(t, 0, twin.typeVariable(1)));
+    latest("with another type", "1951");
+    twin.matched(1000);
+    works("one of them");
   }
 }

@@ -9,6 +9,8 @@ public final class SturdyTest {
     512, 513, 999, 1000, 4000, 8000, 30000, Integer.MAX_VALUE - 1, Integer.MAX_VALUE
   };
 
+  private static final List<String> ALLOWED = List.of(Checks.INDEX, Checks.ARGUMENT, Checks.STATE);
+
   private final TermLoom loom = new TermLoom();
   private final Random random;
 
@@ -19,21 +21,30 @@ public final class SturdyTest {
   public static void main(String[] args) {
     for (int seed = 1; seed <= 60; seed++) {
       new SturdyTest(seed).run();
+      new SturdyTest(seed).manyHandles();
     }
     Checks.end("SturdyTest");
   }
 
   private void run() {
-    List<String> allowed = List.of(Checks.INDEX, Checks.ARGUMENT, Checks.STATE);
     for (int i = 0; i < CALLS; i++) {
-      int which = random.nextInt(21);
-      int a = argument();
-      int b = argument();
-      int c = argument();
-      String answer = Checks.answer(() -> call(which, a, b, c));
-      boolean fine = !answer.startsWith("throws") || allowed.contains(answer);
-      Checks.due("method " + which + " of " + a + ", " + b + ", " + c, fine ? "fine" : answer, "fine");
+      check(random.nextInt(21), argument(), argument(), argument());
     }
+  }
+
+  /** More handles than any run of 512 calls makes, and then all else. */
+  private void manyHandles() {
+    for (int i = 0; i < 600; i++) {
+      check(1, i, 0, 0);
+      check(5, i, i, 0);
+    }
+    run();
+  }
+
+  private void check(int which, int a, int b, int c) {
+    String answer = Checks.answer(() -> call(which, a, b, c));
+    boolean fine = !answer.startsWith("throws") || ALLOWED.contains(answer);
+    Checks.due("method " + which + " of " + a + ", " + b + ", " + c, fine ? "fine" : answer, "fine");
   }
 
   private int argument() {

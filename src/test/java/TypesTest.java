@@ -95,6 +95,10 @@ public final class TypesTest {
   }
 
   private static void sameTypes() {
+    TermLoom few = new TermLoom();
+    few.typeVariable(3);
+    few.typeVariable(3);
+    Checks.truth("the only type there is", () -> few.sameType(0, 1), true);
     TermLoom loom = new TermLoom();
     int truths = loom.type(TRUTHS, 0, 0);
     int things = loom.type(THINGS, 0, 0);
