@@ -51,7 +51,11 @@ public final class LimitsTest {
   }
 
   private int chain(int unary, int height) {
-    int type = alpha;
+    return chain(unary, height, alpha);
+  }
+
+  private int chain(int unary, int height, int lowest) {
+    int type = lowest;
     for (int i = 1; i < height; i++) {
       type = twin.type(unary, type, 0);
     }
@@ -70,8 +74,26 @@ public final class LimitsTest {
     latest("height 25, of functions", Checks.STATE);
     twin.type(2, high, alpha);
     latest("height 25, of functions from it", Checks.STATE);
-    twin.type(unary, alpha, 0);
+    int truths = twin.type(0, 0, 0);
     latest("the next handle", Integer.toString(high + 1));
+    int alike = chain(unary, 24, truths);
+    int c = twin.declare(high);
+    int ofAlpha = twin.constant(c, high);
+    works("a constant of height 24");
+    int ofTruths = twin.constant(c, alike);
+    works("the same of another type of height 24");
+    twin.constant(c, chain(unary, 23, truths));
+    latest("not of height 23", Checks.ARGUMENT);
+    twin.match(ofAlpha, ofTruths);
+    latest("its type fits", "0");
+    twin.match(ofTruths, ofAlpha);
+    latest("not the other way", "-1");
+    twin.match(twin.free(1, high), ofTruths);
+    latest("a variable of height 24", "1");
+    twin.retype(ofAlpha, 0, truths);
+    works("retyped at height 24");
+    twin.same(ofTruths, twin.plain.terms.size() - 1);
+    latest("the same", "1");
   }
 
   private void symbolsOfTypes() {
