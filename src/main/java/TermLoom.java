@@ -483,19 +483,17 @@ public final class TermLoom {
             seconds[count] = second;
             symbols[count] = size;
             heights[count] = height;
-            link(count, bucketOf(head, first, second));
+            int bucket = bucketOf(head, first, second);
+            older[count] = buckets[bucket];
+            buckets[bucket] = count;
             count++;
             return count - 1;
         }
 
-        private void link(int type, int bucket) {
-            older[type] = buckets[bucket];
-            buckets[bucket] = type;
-        }
-
         /** The newest type is the first one in its bucket, so it can be taken out there. */
         void forgetFrom(int mark) {
-            for (int type = count - 1; type >= mark && type >= 0; type--) {
+            int newest = Math.min(count, MOST_TYPES) - 1;
+            for (int type = newest; type >= mark && type >= 0; type--) {
                 buckets[bucketOf(heads[type], firsts[type], seconds[type])] = older[type];
                 count = type;
             }

@@ -6,6 +6,7 @@ final class EdgesOfMatching {
 
   static void all() {
     match();
+    afterMisfit();
     matched();
     become();
     freeVariables();
@@ -113,6 +114,22 @@ final class EdgesOfMatching {
     new Edge<>(promise, state, () -> new Scenes.FullTerms(0))
         .refused("no room at all", s -> s.twin.matched(0), Checks.STATE)
         .refused("no variable before comes first", s -> s.twin.matched(-1), Checks.INDEX);
+  }
+
+  /** A match that ends within two applications, at a variable that is bound outside of them. */
+  private static final class BoundMisfit extends Started {
+    final int misfit = twin.match(idle, twin.abstraction(x, gxy));
+  }
+
+  private static void afterMisfit() {
+    new Edge<>("Promise 21", "-1 if p does not fit.", BoundMisfit::new)
+        .answers("what is then matched", s -> s.twin.match(s.twin.apply(s.gx, s.fx), s.twin.apply(
+            s.twin.apply(s.g, s.fx), s.twin.apply(s.f, s.fx))), 3)
+        .answers("a part", s -> s.twin.same(s.twin.part(s.gxy, 0), s.gx), 1)
+        .answers("the other part", s -> s.twin.same(s.twin.part(s.gxy, 1), s.y), 1)
+        .answers("what is then bound", s -> s.twin.symbol(s.twin.abstraction(s.y, s.gxy), 5), 0)
+        .answers("what is then opened", s -> s.twin.same(s.twin.open(s.over, s.x), s.fx), 1)
+        .answers("a height", s -> s.twin.measure(s.twin.apply(s.gx, s.gxy), 1), 4);
   }
 
   private static void noneMatched(String promise) {

@@ -52,6 +52,9 @@ final class EdgesOfRefusals {
         s -> s.twin.abstraction(s.x, s.height120),
         s -> s.twin.open(s.over61, s.height61),
         s -> s.twin.put(s.height120, s.x, s.height120)));
+    next("too high by f", Scenes.HighFunctions::new, List.of(
+        s -> s.twin.apply(s.height120, s.x),
+        s -> s.twin.abstraction(s.x, s.twin.apply(s.height119, s.x))));
     next("too many symbols of a type", Scenes.LargeTypes::new, List.of(
         s -> s.twin.type(2, s.hundred, s.hundred),
         s -> s.twin.abstraction(s.ofHundred, s.ofHundred),

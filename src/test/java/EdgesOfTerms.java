@@ -173,7 +173,7 @@ final class EdgesOfTerms {
         .refused("height 121", s -> s.twin.apply(s.f, s.height120), Checks.STATE)
         .refused("a wrong argument comes first", s -> s.twin.apply(s.x, s.height120), Checks.ARGUMENT)
         .refused("no term comes first", s -> s.twin.apply(-1, s.height120), Checks.INDEX);
-    new Edge<>(promise, state, OfHigh::new)
+    new Edge<>(promise, state, Scenes.HighFunctions::new)
         .allowed("height 120 by f", s -> s.twin.apply(s.height119, s.x))
         .refused("height 121 by f", s -> s.twin.apply(s.height120, s.x), Checks.STATE);
     filling(promise, state, 3, s -> s.twin.apply(s.f, s.x));
@@ -190,20 +190,6 @@ final class EdgesOfTerms {
     OfLarge(int size) {
       large = termOfSize(size);
       ofLarge = twin.apply(g, large);
-    }
-  }
-
-  private static final class OfHigh extends Started {
-    final int height31 = joined(tower(16), tower(16));
-    final int height61 = joined(height31, height31);
-    final int height91 = joined(height61, height31);
-    final int height118 = joined(height91, tower(28));
-    final int height119 = twin.apply(g, height118);
-    final int height120 = twin.apply(g, twin.apply(f, height118));
-
-    OfHigh() {
-      Checks.due("height", twin.measure(height119, 1) + "", "119");
-      Checks.due("height", twin.measure(height120, 1) + "", "120");
     }
   }
 

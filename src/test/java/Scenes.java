@@ -94,6 +94,21 @@ final class Scenes {
     }
   }
 
+  /** Terms of functions and of nearly the greatest height. */
+  static final class HighFunctions extends Started {
+    final int height31 = joined(tower(16), tower(16));
+    final int height61 = joined(height31, height31);
+    final int height91 = joined(height61, height31);
+    final int height118 = joined(height91, tower(28));
+    final int height119 = twin.apply(g, height118);
+    final int height120 = twin.apply(g, twin.apply(f, height118));
+
+    HighFunctions() {
+      Checks.due("height", twin.measure(height119, 1) + "", "119");
+      Checks.due("height", twin.measure(height120, 1) + "", "120");
+    }
+  }
+
   /** Terms that have 30000 symbols together, but for so many. */
   static final class FullTerms extends Started {
     FullTerms(int left) {
