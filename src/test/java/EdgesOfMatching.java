@@ -168,7 +168,6 @@ final class EdgesOfMatching {
     final int second = twin.abstraction(x, twin.abstraction(y, y));
     final int overGxy = twin.abstraction(y, gxy);
     final int z = twin.free(6, twin.type(2, endless, alpha));
-    final int truthsToTruths = twin.type(2, truths, truths);
   }
 
   private static void become() {

@@ -84,7 +84,6 @@ final class Scenes {
     final int height118 = twin.part(joined(height60, height60), 1);
     final int height119 = height118 - 1;
     final int height120 = joined(height61, height60);
-    final int over60 = twin.abstraction(x, height60);
     final int over61 = twin.abstraction(x, height61);
 
     HighTerms() {
