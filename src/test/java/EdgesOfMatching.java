@@ -30,7 +30,9 @@ final class EdgesOfMatching {
             s.twin.apply(s.gx, s.x), s.twin.apply(s.gx, s.x)), 2);
     new Edge<>(promise, "Matches: how many free variables of p became something;",
         MostVariables::new)
-        .answers("as many as there can be", s -> s.twin.match(s.most, s.most), 2000);
+        .answers("as many as there can be", s -> s.twin.match(s.most, s.most), 2000)
+        .answers("half of them, of other types", s -> s.twin.match(s.half, s.copy), 999)
+        .answers("not the other way", s -> s.twin.match(s.copy, s.half), -1);
     new Edge<>(promise, "-1 if p does not fit.", Started::new)
         .answers("the first symbol", s -> s.twin.match(s.gxy, s.over), -1)
         .answers("the last symbol", s -> s.twin.match(
@@ -49,6 +51,8 @@ final class EdgesOfMatching {
 
   /** A term of 3999 symbols with 2000 variables, all different: copies of one in other types. */
   private static final class MostVariables extends Started {
+    final int half;
+    final int copy;
     final int most;
 
     MostVariables() {
@@ -57,14 +61,19 @@ final class EdgesOfMatching {
         int part = twin.apply(twin.free(n, twoPlaces), twin.free(100 + n, alpha));
         t = twin.apply(part, t);
       }
-      for (int half = 1; half <= 8; half *= 2) {
-        int other = typeOfHeight(half + 1, alpha);
-        int join = twin.free(900 + half, twin.type(2, alpha, twin.type(2, other, alpha)));
-        int copy = twin.retype(t, 0, other);
-        t = twin.apply(twin.apply(join, t), copy);
-      }
-      most = twin.apply(twin.free(950, endless), t);
+      t = doubled(doubled(doubled(t, 1), 2), 4);
+      half = t;
+      int whole = doubled(half, 8);
+      copy = twin.part(whole, 1);
+      most = twin.apply(twin.free(950, endless), whole);
       Checks.due("symbols", twin.measure(most, 0) + "", "3999");
+    }
+
+    /** A term and a copy of it, whose variables have types so much higher. */
+    private int doubled(int t, int higher) {
+      int other = typeOfHeight(higher + 1, alpha);
+      int join = twin.free(900 + higher, twin.type(2, alpha, twin.type(2, other, alpha)));
+      return twin.apply(twin.apply(join, t), twin.retype(t, 0, other));
     }
   }
 

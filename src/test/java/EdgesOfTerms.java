@@ -480,7 +480,13 @@ final class EdgesOfTerms {
         .refused("height 25 within", s -> s.twin.retype(s.applied, 0, s.height24), Checks.STATE)
         .allowed("the variable itself, of 24", s -> s.twin.retype(s.x, 0, s.height24))
         .allowed("a variable of height 24 as it is", s -> s.twin.retype(s.of24, 0, s.truths))
-        .refused("height 25 by two", s -> s.twin.retype(s.of24, 0, s.list), Checks.STATE);
+        .refused("height 25 by two", s -> s.twin.retype(s.of24, 0, s.list), Checks.STATE)
+        .refused("height 25 by functions", s -> s.twin.retype(s.g, 0, s.height23), Checks.STATE)
+        .answers("what it made is made again, as one type", s -> {
+          s.twin.retype(s.g, 0, s.height23);
+          int again = s.twin.type(2, s.height23, s.height23);
+          s.twin.sameType(again, s.twin.typeOf(s.twin.abstraction(s.of23, s.of23)));
+        }, 1);
   }
 
   private static void retypeMany(String promise, String state) {
