@@ -22,7 +22,7 @@ public final class TermLoom {
     private static final int MOST_SYMBOLS = 4000;
     private static final int MOST_HEIGHT = 120;
     private static final int MOST_SYMBOLS_TOGETHER = 30000;
-    // A term has one leaf more than applications, so leaves are half of its symbols at most.
+    // A term has one leaf more than applications, so no more of its symbols can be leaves.
     private static final int MOST_LEAVES = 2000;
 
     // A call makes one handle at most, and what an object answers after so many calls is free.
@@ -115,7 +115,7 @@ public final class TermLoom {
             throw new IllegalArgumentException("no such constant");
         }
         types.beginImages();
-        if (!types.fits(read(declared, c), own, MOST_TYPE_HEIGHT)) {
+        if (!types.fits(read(declared, c), own)) {
             throw new IllegalArgumentException("the constant's own type does not become that one");
         }
         return leaf(codeOf(CONSTANT, c), own);
@@ -296,9 +296,9 @@ public final class TermLoom {
         int type = terms.symbolType(there);
         boolean fits = true;
         if (code == ABSTRACTION) {
-            fits = types.fits(types.first(pattern), types.first(type), MOST_TYPE_HEIGHT);
+            fits = types.fits(types.first(pattern), types.first(type));
         } else if (isOf(CONSTANT, code)) {
-            fits = types.fits(pattern, type, MOST_TYPE_HEIGHT);
+            fits = types.fits(pattern, type);
         }
         return fits ? there + 1 : NONE;
     }
@@ -316,7 +316,7 @@ public final class TermLoom {
             boolean again = terms.alike(bindings.from(known), bindings.end(known), there, end);
             return again ? end : NONE;
         }
-        if (!types.fits(pattern, terms.symbolType(there), MOST_TYPE_HEIGHT)) {
+        if (!types.fits(pattern, terms.symbolType(there))) {
             return NONE;
         }
         bindings.add(code, pattern, there, end);
@@ -459,7 +459,9 @@ public final class TermLoom {
         int find(int head, int first, int second) {
             int type = read(buckets, bucketOf(head, first, second));
             for (int left = count; left > 0 && type != NONE; left--) {
-                if (head(type) == head && first(type) == first && second(type) == second) {
+                if (read(heads, type) == head
+                        && read(firsts, type) == first
+                        && read(seconds, type) == second) {
                     return type;
                 }
                 type = read(older, type);
@@ -520,11 +522,13 @@ public final class TermLoom {
             return read(stamps, type) == stamp;
         }
 
-        /**
-         * Whether a type fits another one, beside all that fitted since beginImages(). What fitted
-         * once has all its variables set, so it fits nothing but its image again.
-         */
-        boolean fits(int pattern, int type, int levels) {
+        /** Whether a type fits another one, beside all that fitted since beginImages(). */
+        boolean fits(int pattern, int type) {
+            return fitsWithin(pattern, type, MOST_TYPE_HEIGHT);
+        }
+
+        /** What fitted once has all its variables set, so it fits nothing but its image again. */
+        private boolean fitsWithin(int pattern, int type, int levels) {
             if (pattern == NONE || type == NONE) {
                 return pattern == type;
             }
@@ -534,21 +538,22 @@ public final class TermLoom {
             if (hasImage(pattern)) {
                 return read(images, pattern) == type;
             }
-            if (head(pattern) >= 0 && !partsFit(pattern, type, levels - 1)) {
-                return false;
+            boolean fits = head(pattern) < 0
+                    || head(pattern) == head(type)
+                            && fitsWithin(first(pattern), first(type), levels - 1)
+                            && fitsWithin(second(pattern), second(type), levels - 1);
+            if (fits) {
+                setImage(pattern, type);
             }
-            setImage(pattern, type);
-            return true;
-        }
-
-        private boolean partsFit(int pattern, int type, int levels) {
-            return head(pattern) == head(type)
-                    && fits(first(pattern), first(type), levels)
-                    && fits(second(pattern), second(type), levels);
+            return fits;
         }
 
         /** What a type becomes when the images are put in for its variables; NONE if too large. */
-        int image(int type, int levels) {
+        int image(int type) {
+            return imageWithin(type, MOST_TYPE_HEIGHT);
+        }
+
+        private int imageWithin(int type, int levels) {
             if (type == NONE || levels <= 0) {
                 return NONE;
             }
@@ -559,8 +564,8 @@ public final class TermLoom {
         }
 
         private int rebuilt(int type, int levels) {
-            int first = image(first(type), levels);
-            int second = image(second(type), levels);
+            int first = imageWithin(first(type), levels);
+            int second = imageWithin(second(type), levels);
             boolean secondFails = second == NONE && second(type) != NONE;
             return first == NONE || secondFails ? NONE : made(head(type), first, second);
         }
@@ -770,7 +775,7 @@ public final class TermLoom {
         /** False if a type in it would be too large, or one too many. */
         boolean addRetyped(int t, TypeTable types) {
             for (int at = start(t); at < end(t); at++) {
-                int type = types.image(symbolType(at), MOST_TYPE_HEIGHT);
+                int type = types.image(symbolType(at));
                 if (type == NONE) {
                     return false;
                 }
