@@ -99,13 +99,16 @@ final class EdgesOfChapter {
           .allowed("height 24 on " + lowest, s -> s.twin.type(s.unary, s.high - 1, 0))
           .refused("height 25 on " + lowest, s -> s.twin.type(s.unary, s.high, 0), Checks.STATE);
     }
-    new Edge<>(TERMS, "else 1 more than the greatest one of what it takes);", Scenes.HighTypes::new)
-        .allowed("23 to 1", s -> s.twin.type(2, s.height23, s.alpha))
-        .allowed("1 to 23", s -> s.twin.type(2, s.alpha, s.height23))
-        .allowed("23 to 23", s -> s.twin.type(2, s.height23, s.height23))
-        .refused("24 to 1", s -> s.twin.type(2, s.height24, s.alpha), Checks.STATE)
-        .refused("1 to 24", s -> s.twin.type(2, s.alpha, s.height24), Checks.STATE)
-        .refused("24 to 24", s -> s.twin.type(2, s.height24, s.height24), Checks.STATE);
+    for (Scenes.Way way : Scenes.Way.values()) {
+      new Edge<>(TERMS, "else 1 more than the greatest one of what it takes);",
+          () -> new Scenes.HighTypes(way))
+          .allowed("23 to 1", s -> s.twin.type(2, s.height23, s.alpha))
+          .allowed("1 to 23", s -> s.twin.type(2, s.alpha, s.height23))
+          .allowed("23 to 23", s -> s.twin.type(2, s.height23, s.height23))
+          .refused("24 to 1", s -> s.twin.type(2, s.height24, s.alpha), Checks.STATE)
+          .refused("1 to 24", s -> s.twin.type(2, s.alpha, s.height24), Checks.STATE)
+          .refused("24 to 24", s -> s.twin.type(2, s.height24, s.height24), Checks.STATE);
+    }
   }
 
   /** A term of truths, of which what stands within has larger types. */

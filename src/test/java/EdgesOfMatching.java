@@ -1,6 +1,8 @@
 /** Promises 21 and 22, and what the chapter 'Terms' says of matching, sentence by sentence. */
 final class EdgesOfMatching {
   private static final String TERMS = "Terms";
+  private static final String FITS =
+      "A type fits another one if it is a variable (the same type at each further";
 
   private EdgesOfMatching() {}
 
@@ -361,8 +363,7 @@ final class EdgesOfMatching {
   }
 
   private static void types() {
-    new Edge<>(TERMS, "A type fits another one if it is a variable (the same type at each further",
-        Lists::new)
+    new Edge<>(TERMS, FITS, Lists::new)
         .answers("a variable fits truths", s -> s.twin.match(s.x, s.truth), 1)
         .answers("and itself", s -> s.twin.match(s.x, s.y), 1)
         .answers("and what has it within", s -> s.twin.match(s.x, s.f), 1)
@@ -380,15 +381,15 @@ final class EdgesOfMatching {
         .answers("functions are no lists", s -> s.twin.match(s.lists, s.f), -1)
         .answers("a further symbol", s -> s.twin.match(
             s.twin.apply(s.f, s.x), s.twin.apply(s.toThings, s.truth)), -1);
-    new Edge<>(TERMS, "A type fits another one if it is a variable (the same type at each further",
-        Scenes.HighTypes::new)
-        .answers("height 24", s -> s.twin.match(s.of24, s.twin.retype(s.of24, 0, s.truths)), 1)
-        .answers("height 24, not the other way", s -> s.twin.match(
-            s.twin.retype(s.of24, 0, s.truths), s.of24), -1)
-        .answers("height 23 fits 24", s -> s.twin.match(s.of23, s.of24), 1)
-        .answers("height 24 does not fit 23", s -> s.twin.match(s.of24, s.of23), -1);
-    new Edge<>(TERMS, "A type fits another one if it is a variable (the same type at each further",
-        Scenes.LargeTypes::new)
+    for (Scenes.Way way : Scenes.Way.values()) {
+      new Edge<>(TERMS, FITS, () -> new Scenes.HighTypes(way))
+          .answers("height 24", s -> s.twin.match(s.of24, s.twin.retype(s.of24, 0, s.truths)), 1)
+          .answers("height 24, not the other way", s -> s.twin.match(
+              s.twin.retype(s.of24, 0, s.truths), s.of24), -1)
+          .answers("height 23 fits 24", s -> s.twin.match(s.of23, s.of24), 1)
+          .answers("height 24 does not fit 23", s -> s.twin.match(s.of24, s.of23), -1);
+    }
+    new Edge<>(TERMS, FITS, Scenes.LargeTypes::new)
         .answers("200 symbols", s -> s.twin.match(s.ofMost, s.twin.retype(s.ofMost, 0, s.truths)), 1)
         .answers("200 symbols, not the other way", s -> s.twin.match(
             s.twin.retype(s.ofMost, 0, s.truths), s.ofMost), -1);

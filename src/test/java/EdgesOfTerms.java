@@ -112,8 +112,12 @@ final class EdgesOfTerms {
         .refused("lists for functions", s -> s.twin.constant(s.functions, s.list), Checks.ARGUMENT);
     new Edge<>(promise, sentence, Scenes.LargeTypes::new)
         .allowed("200 symbols", s -> s.twin.constant(s.declared, s.most));
-    new Edge<>(promise, sentence, Scenes.HighTypes::new)
-        .allowed("height 24", s -> s.twin.constant(s.twin.declare(s.height24), s.height24));
+    for (Scenes.Way way : Scenes.Way.values()) {
+      new Edge<>(promise, sentence, () -> new Scenes.HighTypes(way))
+          .allowed("height 24", s -> s.twin.constant(s.twin.declare(s.height24), s.height24))
+          .allowed("height 24 that becomes another type", s -> s.twin.constant(
+              s.twin.declare(s.height24), s.twin.typeOf(s.twin.retype(s.of24, 0, s.truths))));
+    }
     whenFull(promise, sentence)
         .refused("before too many", s -> s.twin.constant(-1, s.alpha), Checks.ARGUMENT);
   }
@@ -247,11 +251,13 @@ final class EdgesOfTerms {
         .refused("a type of 201", s -> s.twin.abstraction(s.ofHundred, s.ofHundred), Checks.STATE)
         .refused("a variable of 200", s -> s.twin.abstraction(s.ofMost, s.x), Checks.STATE)
         .refused("no variable comes first", s -> s.twin.abstraction(s.c, s.ofMost), Checks.ARGUMENT);
-    new Edge<>(promise, state, Scenes.HighTypes::new)
-        .allowed("a variable of height 23", s -> s.twin.abstraction(s.of23, s.x))
-        .allowed("a body of height 23", s -> s.twin.abstraction(s.x, s.of23))
-        .refused("a variable of height 24", s -> s.twin.abstraction(s.of24, s.x), Checks.STATE)
-        .refused("a body of height 24", s -> s.twin.abstraction(s.x, s.of24), Checks.STATE);
+    for (Scenes.Way way : Scenes.Way.values()) {
+      new Edge<>(promise, state, () -> new Scenes.HighTypes(way))
+          .allowed("a variable of height 23", s -> s.twin.abstraction(s.of23, s.x))
+          .allowed("a body of height 23", s -> s.twin.abstraction(s.x, s.of23))
+          .refused("a variable of height 24", s -> s.twin.abstraction(s.of24, s.x), Checks.STATE)
+          .refused("a body of height 24", s -> s.twin.abstraction(s.x, s.of24), Checks.STATE);
+    }
     new Edge<>(promise, state, () -> new Scenes.ManyTypes(1))
         .allowed("8000 different types", s -> s.twin.abstraction(s.truth, s.truth))
         .refused("too high, with a new type", s -> s.twin.abstraction(s.truth, s.height120), Checks.STATE);
@@ -468,25 +474,27 @@ final class EdgesOfTerms {
   }
 
   private static void retypeHigh(String promise, String state) {
-    new Edge<>(promise, state, Scenes.HighTypes::new)
-        .allowed("a variable of height 24", s -> s.twin.retype(s.ofList, 0, s.height23))
-        .refused("a variable of height 25", s -> s.twin.retype(s.ofList, 0, s.height24), Checks.STATE)
-        .allowed("a constant of height 24", s -> s.twin.retype(s.constantOfList, 0, s.height23))
-        .refused("a constant of 25", s -> s.twin.retype(s.constantOfList, 0, s.height24), Checks.STATE)
-        .allowed("an abstraction of height 24", s -> s.twin.retype(s.self, 0, s.height23))
-        .refused("an abstraction of 25", s -> s.twin.retype(s.self, 0, s.height24), Checks.STATE)
-        .refused("one that binds nothing", s -> s.twin.retype(s.idle, 0, s.height24), Checks.STATE)
-        .allowed("height 24 within", s -> s.twin.retype(s.applied, 0, s.height23))
-        .refused("height 25 within", s -> s.twin.retype(s.applied, 0, s.height24), Checks.STATE)
-        .allowed("the variable itself, of 24", s -> s.twin.retype(s.x, 0, s.height24))
-        .allowed("a variable of height 24 as it is", s -> s.twin.retype(s.of24, 0, s.truths))
-        .refused("height 25 by two", s -> s.twin.retype(s.of24, 0, s.list), Checks.STATE)
-        .refused("height 25 by functions", s -> s.twin.retype(s.g, 0, s.height23), Checks.STATE)
-        .answers("what it made is made again, as one type", s -> {
-          s.twin.retype(s.g, 0, s.height23);
-          int again = s.twin.type(2, s.height23, s.height23);
-          s.twin.sameType(again, s.twin.typeOf(s.twin.abstraction(s.of23, s.of23)));
-        }, 1);
+    for (Scenes.Way way : Scenes.Way.values()) {
+      new Edge<>(promise, state, () -> new Scenes.HighTypes(way))
+          .allowed("a variable of height 24", s -> s.twin.retype(s.ofLow, 0, s.height23))
+          .refused("a variable of height 25", s -> s.twin.retype(s.ofLow, 0, s.height24), Checks.STATE)
+          .allowed("a constant of height 24", s -> s.twin.retype(s.constantOfLow, 0, s.height23))
+          .refused("a constant of 25", s -> s.twin.retype(s.constantOfLow, 0, s.height24), Checks.STATE)
+          .allowed("an abstraction of height 24", s -> s.twin.retype(s.self, 0, s.height23))
+          .refused("an abstraction of 25", s -> s.twin.retype(s.self, 0, s.height24), Checks.STATE)
+          .refused("one that binds nothing", s -> s.twin.retype(s.idle, 0, s.height24), Checks.STATE)
+          .allowed("height 24 within", s -> s.twin.retype(s.applied, 0, s.height23))
+          .refused("height 25 within", s -> s.twin.retype(s.applied, 0, s.height24), Checks.STATE)
+          .allowed("the variable itself, of 24", s -> s.twin.retype(s.x, 0, s.height24))
+          .allowed("a variable of height 24 as it is", s -> s.twin.retype(s.of24, 0, s.truths))
+          .refused("height 25 by two", s -> s.twin.retype(s.of24, 0, s.low), Checks.STATE)
+          .refused("height 25 by functions", s -> s.twin.retype(s.g, 0, s.height23), Checks.STATE)
+          .answers("what it made is made again, as one type", s -> {
+            s.twin.retype(s.g, 0, s.height23);
+            int again = s.twin.type(2, s.height23, s.height23);
+            s.twin.sameType(again, s.twin.typeOf(s.twin.abstraction(s.of23, s.of23)));
+          }, 1);
+    }
   }
 
   private static void retypeMany(String promise, String state) {

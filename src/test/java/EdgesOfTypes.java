@@ -134,9 +134,11 @@ final class EdgesOfTypes {
     new Edge<>(promise, sentence, () -> new Scenes.FullTypes(0))
         .refused("before too many", s -> s.twin.type(5, 0, 0), Checks.ARGUMENT)
         .refused("no type before too many", s -> s.twin.type(2, 0, s.types()), Checks.INDEX);
-    new Edge<>(promise, sentence, Scenes.HighTypes::new)
-        .refused("before too high", s -> s.twin.type(5, s.height24, 0), Checks.ARGUMENT)
-        .refused("no type before too high", s -> s.twin.type(2, s.height24, -1), Checks.INDEX);
+    for (Scenes.Way way : Scenes.Way.values()) {
+      new Edge<>(promise, sentence, () -> new Scenes.HighTypes(way))
+          .refused("before too high", s -> s.twin.type(5, s.height24, 0), Checks.ARGUMENT)
+          .refused("no type before too high", s -> s.twin.type(2, s.height24, -1), Checks.INDEX);
+    }
   }
 
   private static void typeLimits(String promise, String sentence) {
@@ -144,9 +146,11 @@ final class EdgesOfTypes {
         .allowed("200 symbols", s -> s.twin.type(2, s.hundred, s.ninetyNine))
         .refused("201 symbols", s -> s.twin.type(2, s.hundred, s.hundred), Checks.STATE)
         .refused("201 symbols of one", s -> s.twin.type(s.unary, s.most, 0), Checks.STATE);
-    new Edge<>(promise, sentence, Scenes.HighTypes::new)
-        .allowed("height 24", s -> s.twin.type(s.unary, s.height23, 0))
-        .refused("height 25", s -> s.twin.type(s.unary, s.height24, 0), Checks.STATE);
+    for (Scenes.Way way : Scenes.Way.values()) {
+      new Edge<>(promise, sentence, () -> new Scenes.HighTypes(way))
+          .allowed("height 24", s -> s.higher(s.height23))
+          .refused("height 25", s -> s.higher(s.height24), Checks.STATE);
+    }
     new Edge<>(promise, sentence, () -> new Scenes.FullTypes(1))
         .allowed("6000 symbols together", s -> s.twin.type(s.nullary, 0, 0))
         .refused("6004 symbols together", s -> s.twin.type(2, s.endless, s.alpha), Checks.STATE);
@@ -183,8 +187,11 @@ final class EdgesOfTypes {
         .refused("a term's handle is no type's", s -> s.twin.typeSymbol(s.idle, 0), Checks.INDEX);
     new Edge<>(promise, none, Scenes.LargeTypes::new)
         .within(0, 199, Checks.INDEX, (s, i) -> s.twin.typeSymbol(s.most, i));
-    new Edge<>(promise, none, Scenes.HighTypes::new)
-        .within(0, 23, Checks.INDEX, (s, i) -> s.twin.typeSymbol(s.height24, i));
+    for (Scenes.Way way : Scenes.Way.values()) {
+      new Edge<>(promise, none, () -> new Scenes.HighTypes(way))
+          .within(0, way.symbols - 1, Checks.INDEX, (s, i) -> s.twin.typeSymbol(s.height24, i))
+          .allowed("each symbol", s -> s.allSymbols(s.height24));
+    }
   }
 
   private static void declare() {

@@ -43,20 +43,57 @@ final class Scenes {
     }
   }
 
+  /** What a type is within, to be one higher: a list of it, functions from it, or to it. */
+  enum Way {
+    LIST(24), FROM(47), TO(47);
+
+    /** How many symbols a type of height 24 has. */
+    final int symbols;
+
+    Way(int symbols) {
+      this.symbols = symbols;
+    }
+  }
+
   /** Types of nearly the greatest height, on a variable, and variables of them. */
   static final class HighTypes extends Started {
-    final int height22 = typeOfHeight(22, alpha);
-    final int height23 = twin.type(unary, height22, 0);
-    final int height24 = twin.type(unary, height23, 0);
-    final int list = twin.type(unary, alpha, 0);
-    final int of23 = twin.free(5, height23);
-    final int of24 = twin.free(5, height24);
-    final int ofList = twin.free(5, list);
-    final int constantOfList = twin.constant(declared, list);
+    private final Way way;
+    final int low;
+    final int height23;
+    final int height24;
+    final int of23;
+    final int of24;
+    final int ofLow;
+    final int constantOfLow;
     final int applied = twin.apply(self, x);
 
-    HighTypes() {
+    HighTypes(Way way) {
+      this.way = way;
+      low = higher(alpha);
+      int type = low;
+      for (int height = 2; height < 23; height++) {
+        type = higher(type);
+      }
+      height23 = type;
+      height24 = higher(height23);
+      of23 = twin.free(5, height23);
+      of24 = twin.free(5, height24);
+      ofLow = twin.free(5, low);
+      constantOfLow = twin.constant(declared, low);
       Checks.due("height", Integer.toString(twin.plain.types.get(height24).height), "24");
+    }
+
+    int higher(int type) {
+      if (way == Way.LIST) {
+        return twin.type(unary, type, 0);
+      }
+      return way == Way.FROM ? twin.type(2, type, things) : twin.type(2, things, type);
+    }
+
+    void allSymbols(int type) {
+      for (int i = 0; i < way.symbols; i++) {
+        twin.typeSymbol(type, i);
+      }
     }
   }
 
