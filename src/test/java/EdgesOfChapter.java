@@ -315,6 +315,25 @@ final class EdgesOfChapter {
         .allowed("an abstraction opened", s -> s.twin.open(s.over, s.y))
         .allowed("a term put in", s -> s.twin.put(s.gxy, s.x, s.fx))
         .allowed("what was matched", s -> s.twin.matched(0));
+    new Edge<>(TERMS, sentence, () -> new Scenes.ManyTypes(1))
+        .answers("the last one is retyped", s -> {
+          int t = s.twin.abstraction(s.truth, s.truth);
+          s.twin.same(s.twin.retype(t, 7, s.alpha), t);
+        }, 1)
+        .answers("and fits", s -> s.twin.match(s.self, s.twin.abstraction(s.truth, s.truth)), 0)
+        .answers("a last variable's place is taken", s -> {
+          int last = s.twin.free(1, s.twin.typeVariable(900));
+          s.twin.same(s.twin.retype(last, 900, s.truths), s.truth);
+        }, 1);
+    new Edge<>(TERMS, sentence, () -> Scenes.ManyTypes.withoutHandles(1))
+        .allowed("8000 behind a refused variable", s -> {
+          s.twin.typeVariable(900);
+          s.twin.abstraction(s.truth, s.truth);
+        })
+        .allowed("8000 behind a refused type", s -> {
+          s.twin.type(2, s.truths, s.things);
+          s.twin.abstraction(s.truth, s.truth);
+        });
   }
 
   private static void prefixOrder() {

@@ -4,6 +4,8 @@ final class EdgesOfMatching {
   private static final String FITS =
       "A type fits another one if it is a variable (the same type at each further";
 
+  private static final int LAST = 950;
+
   private EdgesOfMatching() {}
 
   static void all() {
@@ -34,7 +36,12 @@ final class EdgesOfMatching {
         MostVariables::new)
         .answers("as many as there can be", s -> s.twin.match(s.most, s.most), 2000)
         .answers("half of them, of other types", s -> s.twin.match(s.half, s.copy), 999)
-        .answers("not the other way", s -> s.twin.match(s.copy, s.half), -1);
+        .answers("not the other way", s -> s.twin.match(s.copy, s.half), -1)
+        .answers("the last of them is forgotten", s -> {
+          s.twin.match(s.most, s.most);
+          int otherType = s.twin.free(LAST, s.truths);
+          s.twin.match(s.ofTwo(otherType, s.last), s.ofTwo(s.truth, s.y));
+        }, 3);
     new Edge<>(promise, "-1 if p does not fit.", Started::new)
         .answers("the first symbol", s -> s.twin.match(s.gxy, s.over), -1)
         .answers("the last symbol", s -> s.twin.match(
@@ -56,6 +63,7 @@ final class EdgesOfMatching {
     final int half;
     final int copy;
     final int most;
+    final int last = twin.free(LAST, alpha);
 
     MostVariables() {
       int t = twin.apply(twin.free(900, endless), x);
@@ -63,18 +71,23 @@ final class EdgesOfMatching {
         int part = twin.apply(twin.free(n, twoPlaces), twin.free(100 + n, alpha));
         t = twin.apply(part, t);
       }
-      t = doubled(doubled(doubled(t, 1), 2), 4);
-      half = t;
-      int whole = doubled(half, 8);
-      copy = twin.part(whole, 1);
-      most = twin.apply(twin.free(950, endless), whole);
+      half = doubled(doubled(doubled(t, 1, alpha), 2, alpha), 4, alpha);
+      int functions = doubled(half, 8, endless);
+      copy = twin.part(functions, 1);
+      most = twin.apply(functions, last);
       Checks.due("symbols", twin.measure(most, 0) + "", "3999");
     }
 
-    /** A term and a copy of it, whose variables have types so much higher. */
-    private int doubled(int t, int higher) {
+    /** Of a truth and a term of alpha. */
+    int ofTwo(int truth, int t) {
+      int join = twin.free(970, twin.type(2, truths, endless));
+      return twin.apply(twin.apply(join, truth), t);
+    }
+
+    /** A term and a copy of it, whose variables have types so much higher, together of a type. */
+    private int doubled(int t, int higher, int type) {
       int other = typeOfHeight(higher + 1, alpha);
-      int join = twin.free(900 + higher, twin.type(2, alpha, twin.type(2, other, alpha)));
+      int join = twin.free(900 + higher, twin.type(2, alpha, twin.type(2, other, type)));
       return twin.apply(twin.apply(join, t), twin.retype(t, 0, other));
     }
   }

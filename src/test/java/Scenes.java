@@ -164,17 +164,7 @@ final class Scenes {
     FullTypes(int left) {
       int of200 = twin.free(5, typeOfSize(200));
       int of20 = twin.free(5, typeOfSize(20));
-      fill(of200, 200, left);
-      fill(of20, 20, left);
-      fill(g, 5, left);
-      fill(x, 1, left);
-      Checks.due("symbols together", twin.plain.symbolsOfTypes() + left + "", "6000");
-    }
-
-    private void fill(int t, int size, int left) {
-      while (twin.plain.symbolsOfTypes() + size + left <= 6000) {
-        twin.typeOf(t);
-      }
+      fillTypes(left, of200, of20, g, x);
     }
   }
 
@@ -189,11 +179,13 @@ final class Scenes {
     final int height30 = joined(height16, height15);
     final int height31 = joined(height16, height16);
     final int height120 = joined(joined(height31, height31), joined(height31, height30));
+    private final int ofChain;
+    private final int ofWhole;
 
     ManyTypes(int left) {
       int chain = typeOfHeight(OF_CHAIN, alpha);
-      int ofChain = twin.free(5, chain);
-      int ofWhole = twin.free(5, whole(chain));
+      ofChain = twin.free(5, chain);
+      ofWhole = twin.free(5, whole(chain));
       int n = 1;
       for (; twin.plain.differentTypes() + OF_WHOLE + left <= 8000; n++) {
         twin.retype(ofWhole, 0, twin.typeVariable(n));
@@ -205,6 +197,13 @@ final class Scenes {
         twin.typeVariable(n);
       }
       Checks.due("different types", twin.plain.differentTypes() + left + "", "8000");
+    }
+
+    /** The same, and no room for a handle of a type. */
+    static ManyTypes withoutHandles(int left) {
+      ManyTypes scene = new ManyTypes(left);
+      scene.fillTypes(0, scene.ofWhole, scene.ofChain, scene.x);
+      return scene;
     }
 
     /** A type of which nearly each symbol is the beginning of another type with alpha in it. */

@@ -49,6 +49,17 @@ class Started extends Scene {
     return type;
   }
 
+  /** Handles of these terms' types, up to 6000 symbols together but for so many. */
+  final void fillTypes(int left, int... ofTypes) {
+    for (int t : ofTypes) {
+      int size = twin.plain.terms.get(t).type.symbols;
+      while (twin.plain.symbolsOfTypes() + size + left <= 6000) {
+        twin.typeOf(t);
+      }
+    }
+    Checks.due("symbols together", twin.plain.symbolsOfTypes() + left + "", "6000");
+  }
+
   /** A term of type alpha and of so many symbols (2 is none). */
   final int termOfSize(int size) {
     Integer known = termsBySize.get(size);
