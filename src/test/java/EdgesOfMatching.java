@@ -259,6 +259,13 @@ final class EdgesOfMatching {
           s.twin.match(s.gxx, s.gxy);
           s.twin.match(ofConstantG(s, s.y, s.x), ofConstantG(s, s.fx, s.gxy));
         }, 2);
+    for (int number : new int[] {0, 500, 999}) {
+      new Edge<>(TERMS, sentence, Patterns::new)
+          .answers("another number than " + number + ", of one type", s -> s.twin.match(
+              ofConstantG(s, s.x, s.twin.free(number, s.alpha)), ofConstantG(s, s.fx, s.gxy)), 2)
+          .answers("another number behind " + number, s -> s.twin.match(
+              ofConstantG(s, s.twin.free(number, s.alpha), s.x), ofConstantG(s, s.fx, s.gxy)), 2);
+    }
     new Edge<>(TERMS, "(Free variables of one number and different types are two.)", Patterns::new)
         .answers("the first one again", s -> s.twin.match(threePlaces(s), threeTerms(s, s.x)), 3)
         .answers("the first one again, another term", s -> s.twin.match(
